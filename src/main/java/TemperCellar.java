@@ -619,14 +619,14 @@ public final class TemperCellar {
         int last = seen.lastKnownYear();
         int bits = 0;
         for (int cork = 0; cork <= MOST_CORK; cork++) {
-            if (agrees(bottle, cork, last)) {
+            if (agreesWithSeen(bottle, cork, last)) {
                 bits |= 1 << cork;
             }
         }
         return bits;
     }
 
-    private boolean agrees(int bottle, int cork, int last) {
+    private boolean agreesWithSeen(int bottle, int cork, int last) {
         trial.layDown(told);
         trial.cork[bottle] = cork;
         years.start(told, trial, AS_IT_GOES);
