@@ -8,6 +8,7 @@ public final class TextTest {
         newObject();
         feed();
         text();
+        cutText();
         textStays();
         tokens();
         numbers();
@@ -48,6 +49,9 @@ public final class TextTest {
         Due.due("its place", x.fault(1), 0);
         Due.due("the tape is empty", x.feed(0, 0, 0, 0, 0), 20);
 
+        Due.fault("1;".repeat(350), 1, 0);
+        Due.fault(";1".repeat(350), 1, 0);
+        Due.due("the longest text", Due.told("thunder 5;" + " ".repeat(683) + "seed 7;").count(4), 0);
         x = new TemperCellar();
         Due.due("the highest byte first", x.feed(0x6d616e20, 0x6d20373b, 0x20202020, 0x20202020, 0x0a0a0a0a), 20);
         Due.due("text of it", x.text(20), 1);
@@ -78,6 +82,22 @@ public final class TextTest {
         Due.due("the first bytes alone", x.text(8), 1);
         Due.due("people", x.count(0), 1);
         Due.due("the rest is gone", x.text(1), -2);
+    }
+
+    /** What stands behind the first n bytes belongs to no TOKEN. */
+    private static void cutText() {
+        cut("man m 10;", 7, 1, 7);
+        cut("man m 0;", 2, 1, 0);
+        cut("man m 0;men", 8, 0, -1);
+        cut("seed 1;law ages 1<=2;", 18, 1, 18);
+    }
+
+    private static void cut(String text, int n, int fault, int place) {
+        TemperCellar x = new TemperCellar();
+        Due.feed(x, text.getBytes(StandardCharsets.ISO_8859_1));
+        x.text(n);
+        Due.due("fault of the first " + n + " of " + text, x.fault(0), fault);
+        Due.due("place of the first " + n + " of " + text, x.fault(1), place);
     }
 
     /** A FAULT leaves all as it is; a TEXT without one starts all anew. */

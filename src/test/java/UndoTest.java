@@ -5,6 +5,7 @@ public final class UndoTest {
     public static void main(String[] args) {
         undo();
         undoTwenty();
+        undoTwentyOfAllKinds();
         undoYears();
         keepAndBack();
         numbersGoBack();
@@ -54,6 +55,38 @@ public final class UndoTest {
         }
         Due.due("no more", x.undo(), -1);
         Due.due("the first five stay done", x.bottle(0, 2), 1);
+    }
+
+    /** 27 deeds, of which the first seven can't be undone any more. */
+    private static void undoTwentyOfAllKinds() {
+        TemperCellar x = three();
+        x.go(1);
+        for (int round = 1; round <= 8; round++) {
+            x.rack(1, round % 2 == 0 ? 1 : 3);
+            x.rack(2, round % 2 == 0 ? 2 : 4);
+            x.rack(0, round % 2 == 0 ? 0 : 5);
+        }
+        x.seal(0);
+        x.seal(2);
+        x.open(1);
+        Due.due("20 at most", x.count(14), 20);
+        int[][] bins = {{0, 1, 2}, {0, 1, 2}, {0, 1, 2}, {5, 1, 2}, {5, 1, 4}, {5, 3, 4}, {0, 3, 4}, {0, 3, 2}};
+        for (int i = 0; i < bins.length; i++) {
+            Due.due("undo", x.undo(), 19 - i);
+            for (int bottle = 0; bottle < 3; bottle++) {
+                Due.due("BIN of " + bottle + " behind " + (i + 1), x.bottle(bottle, 2), bins[i][bottle]);
+            }
+            Due.due("b is lying", x.bottle(1, 5), 0);
+            Due.due("CORK of c", x.bottle(2, 4), i == 0 ? 9 : 8);
+            Due.due("CORK of a", x.bottle(0, 4), i <= 1 ? 9 : 8);
+        }
+        for (int left = 11; left >= 0; left--) {
+            Due.due("undo", x.undo(), left);
+        }
+        Due.due("no more", x.undo(), -1);
+        Due.due("a, racked last in round 2", x.bottle(0, 2), 0);
+        Due.due("b, racked last in round 3", x.bottle(1, 2), 3);
+        Due.due("c, racked last in round 2", x.bottle(2, 2), 2);
     }
 
     private static void undoYears() {
