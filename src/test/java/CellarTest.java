@@ -180,6 +180,7 @@ public final class CellarTest {
         lawValue("(1<2)+(3>2)", 2);
         lawValue("((((((((force))))))))", 50);
         lawValue("9999", 9999);
+        lawValue("1" + "+1".repeat(31), 32);
     }
 
     private static void lawErrors() {
@@ -196,6 +197,9 @@ public final class CellarTest {
         lawValue("(1000*1000*1000*1000)*(1000*1000*1000*1000)", error);
         lawValue("(0-1000*1000*1000*1000)*(1000*1000*1000*1000)", error);
         lawValue("(1000*1000*1000*1000)*(0-1)", -1_000_000_000_000L);
+        lawValue("(4096*4096*256)*(4096*4096*256)", error);
+        lawValue("(0-4096*4096*256)*(4096*4096*256)", error);
+        lawValue("(4096*4096*256)*(0-4096*4096*256)", error);
         lawValue("9999*9999*9999", 9999L * 9999 * 9999);
         lawValue("1 or 1/0", error);
         lawValue("0 and 1/0", error);
