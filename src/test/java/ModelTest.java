@@ -4,8 +4,11 @@ import java.util.Random;
 
 /** Runs of calls drawn from fixed seeds, answered by the class and by the model: all promises, wrong inputs too. */
 public final class ModelTest {
-    private static final int RUNS = 400;
-    private static final int CALLS = 300;
+    private static final int RUNS = 800;
+    /** The document promises nothing behind them. */
+    private static final int MOST_CALLS = 512;
+    /** More than a text takes (drawn ones can be longer than the TAPE), its FAULT, a change and all counts behind it. */
+    private static final int MOST_CALLS_AT_ONCE = 72;
     private static final String[] NAMES = {"force", "cork", "hated", "bin", "hot", "load", "year"};
     private static final String[] SIGNS = {"+", "-", "*", "/", "<", "<=", "=", "<>", ">=", ">", " and ", " or "};
 
@@ -13,6 +16,7 @@ public final class ModelTest {
     private final TemperCellar x = new TemperCellar();
     private final Model m = new Model();
     private final StringBuilder run = new StringBuilder();
+    private int calls = 0;
     private int wrong = 0;
 
     private ModelTest(long seed) {
@@ -23,7 +27,7 @@ public final class ModelTest {
         int wrong = 0;
         for (int seed = 0; seed < RUNS && wrong < 5; seed++) {
             ModelTest test = new ModelTest(seed);
-            for (int call = 0; call < CALLS && test.wrong == 0; call++) {
+            while (test.calls + MOST_CALLS_AT_ONCE <= MOST_CALLS && test.wrong == 0) {
                 test.callOne();
             }
             wrong += test.wrong;
@@ -131,6 +135,7 @@ public final class ModelTest {
     }
 
     private void same(String call, long got, long want) {
+        calls++;
         run.append(call).append(" -> ").append(got).append('\n');
         if (got != want && wrong == 0) {
             wrong = 1;
