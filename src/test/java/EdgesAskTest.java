@@ -41,6 +41,7 @@ public final class EdgesAskTest {
         triedLastYear();
         triedOtherwise();
         emptyCellar();
+        fullCellar();
         Due.end();
     }
 
@@ -652,5 +653,30 @@ public final class EdgesAskTest {
         Due.due("chance of 1", x.chance(0, 1, 1), 0);
         Due.due("tried", x.tried(0, 0, 99), 0);
         Due.due("tried without a bottle", x.tried(2, 0, 0), -1);
+    }
+
+    /** Five, ten, eight of them, down to none that is LYING: m's are at n, the last one is n's at m. */
+    private static void fullCellar() {
+        StringBuilder text = new StringBuilder(FIVE + bottles(9, "0 10 9") + "bottle z n m 1 20 9;thunder 50;");
+        for (int i = 0; i < 8; i++) {
+            text.append("need q 9 0 199;");
+        }
+        TemperCellar x = Due.told(text.toString());
+        for (int lying = 10; lying >= 0; lying--) {
+            int lyingOfM = Math.max(0, lying - 1);
+            Due.due("LYING", x.count(5), lying);
+            Due.due("ring of " + lying, x.ring(), lying >= 2 ? 3 : 0);
+            Due.due("served by " + lying, x.served(), Math.min(lying, 8));
+            Due.due("rests of " + lying, x.rests(0, 1), lying >= 2 ? 1 : lying == 1 ? 2 : 4);
+            Due.due("dowry of " + lying, x.dowry(0, 1), lyingOfM % 2 * 10);
+            Due.due("pour of " + lying, x.pour(0, 199), lying >= 2 ? (10 - lying) * 11 + 1 : -2);
+            for (int what = 0; what <= 3; what++) {
+                Due.due("racking(9, " + what + ") of " + lying, x.racking(9, what), what < lying ? 0 : -2);
+            }
+            Due.due("racking(9, 4) of " + lying, x.racking(9, 4), lying);
+            Due.due("ahead(9, 0, 0) of " + lying, x.ahead(9, 0, 0), lying);
+            Due.due("tried(5, 0, 9) of " + lying, x.tried(5, 0, 9), lying);
+            x.open(10 - lying);
+        }
     }
 }
